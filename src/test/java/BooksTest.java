@@ -71,6 +71,11 @@ public final class BooksTest {
         x.tear();
         x.write(0, 4, 3, 8);
         Check.due("round", x.judge(), Check.NONE);
+        x.right(31);
+        x.tear();
+        x.turn(0, 1);
+        x.write(0, 1, 1, 12);
+        Check.due("by a turn of place 0", x.judge(), Check.NONE);
     }
 
     /** The draws by the words of the document, on longs, apart from the class. */
@@ -107,6 +112,9 @@ public final class BooksTest {
         Check.due("cost by a drift", y.drift(5, 40), 15002);
         Check.due("cost behind it", y.told(6), 15002);
         Check.due("seed behind it", y.seed(0), 1277307868);
+        TurnedPosts z = Check.landOf("places 3;road 0 1 1;road 0 2 1;goes 0 1 1;");
+        z.turn(0, 1);
+        Check.due("cost by a turn of place 0", z.drift(1, 0), 1000);
     }
 
     private static void refusedDrifts() {

@@ -33,6 +33,9 @@ public final class HelpTest {
         Check.due("a fallen arm", x.fewest(), 8);
         TurnedPosts apart = Check.landOf("places 3;road 0 1 1;goes 0 2 9;");
         Check.due("what cannot be reached is no matter", apart.fewest(), 0);
+        apart.turn(0, 1);
+        apart.fell(0, 0, true);
+        Check.due("though a post leads astray", apart.fewest(), 0);
         TurnedPosts idle = Check.landOf("places 3;road 0 1 1;road 1 2 1;");
         idle.turn(1, 1);
         Check.due("nobody goes", idle.fewest(), 0);
@@ -104,6 +107,8 @@ public final class HelpTest {
         Check.due("nothing was turned by that", x.told(7), 2);
         x.fell(1, 1, true);
         Check.due("a fallen arm", x.odds(0, 2, 100), 0);
+        x.fell(0, 0, true);
+        Check.due("a fallen arm at 0", x.odds(0, 1, 50), 0);
         TurnedPosts ring = Check.landOf("places 3;road 0 1 1;road 1 2 1;road 2 0 1;");
         // 0 to 2: by its own road 60; else by 1, whose post stays 60 of 40
         Check.due("both ways round", ring.odds(0, 2, 40), 840000000);
@@ -195,6 +200,9 @@ public final class HelpTest {
         }
         Check.due("needed(5)", x.needed(5), Check.UNKNOWN);
         Check.due("needed(-2)", x.needed(-2), Check.UNKNOWN);
+        x.fell(0, 0, true);
+        Check.due("not by what was needed before", x.needed(0), 0);
+        Check.due("those of 4 still", x.needed(4), 1);
         TurnedPosts idle = Check.landOf("places 3;road 0 1 1;goes 0 2 5;");
         Check.due("nobody comes", idle.needed(-1), 0);
     }

@@ -104,6 +104,9 @@ public final class LandTest {
         bad("place 3;", 1, 0);
         bad("placess 3;", 1, 0);
         bad("Places 3;", 1, 0);
+        bad("placesz 3;", 1, 0);
+        bad("zlaces 3;", 1, 0);
+        bad("road 3;", 1, 0);
         bad("3;", 1, 0);
         bad(";", 1, 0);
         bad("places", 1, 6);
@@ -172,6 +175,7 @@ public final class LandTest {
         bad(travels + "goes 0 x", 3, travels.length());
         good(roads + "goes 0 1 1;".repeat(20), 9);
         bad("places 2;places 2;", 3, 9);
+        bad("places 1;places 1;", 3, 9);
         bad("places 2;  places", 3, 11);
     }
 
@@ -180,6 +184,8 @@ public final class LandTest {
         bad("places 2;road 0 00 100;", 4, 16);
         bad("places 2;road 0 0", 4, 16);
         bad("places 2;goes 1 1 1;", 4, 16);
+        bad("places 1;road 0 0 1;", 4, 16);
+        bad("places 1;goes 0 0 1;", 4, 16);
         bad("places 2;road 0 1 1;road 0 1 2;", 4, 27);
         bad("places 2;road 0 1 1;road 1   0 2;", 4, 29);
         String star = "places 7;road 0 1 1;road 0 2 1;road 0 3 1;road 0 4 1;road 0 5 1;";
@@ -260,6 +266,9 @@ public final class LandTest {
         Check.due("told(-1)", x.told(-1), Check.OUTSIDE);
         TurnedPosts apart = Check.landOf("places 3;road 0 1 1;goes 0 2 7;goes 2 1 3;");
         Check.due("cost of what cannot be reached", apart.told(6), 10000);
+        TurnedPosts first = Check.landOf("places 3;road 0 1 1;road 0 2 1;goes 1 2 7;goes 0 1 2;");
+        first.turn(0, 1);
+        Check.due("cost by a turn of place 0", first.told(6), 9000);
     }
 
     private static void roads() {

@@ -175,6 +175,8 @@ public final class PostsTest {
         x.turn(3, 1);
         Check.due("one post, three wrongs", x.right(8), 1);
         Check.due("all right", x.right(31), 0);
+        x.paint(3, 0, 1);
+        Check.due("painted for place 0 alone", x.right(31), 1);
         Check.due("3 tells 0", x.miles(3, 0), 9);
         TurnedPosts nine = Check.landOf("places 9;");
         Check.due("right(511)", nine.right(511), 0);
