@@ -314,7 +314,7 @@ public final class TurnedPosts {
             return OUTSIDE;
         }
         int place = NONE;
-        int least = day.costIfRight(0);
+        int least = NONE;
         for (int p = 0; p < ground.places(); p++) {
             int cost = day.costIfRight(1 << p);
             if (place == NONE || cost < least) {

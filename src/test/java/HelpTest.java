@@ -93,8 +93,14 @@ public final class HelpTest {
     private static void bestWithoutPlaces() {
         TurnedPosts x = new TurnedPosts();
         Check.due("best(0) without places", x.best(0), Check.NONE);
-        Check.due("best(1) without places", x.best(1), 0);
+        Check.due("best(1) without places", x.best(1), Check.NONE);
         Check.due("best(2) without places", x.best(2), Check.OUTSIDE);
+        TurnedPosts idle = Check.landOf("places 1;");
+        Check.due("best(0) of a place without travels", idle.best(0), 0);
+        Check.due("best(1) of a place without travels", idle.best(1), 0);
+        idle.land();
+        Check.due("best(0), the land empty again", idle.best(0), Check.NONE);
+        Check.due("best(1), the land empty again", idle.best(1), Check.NONE);
     }
 
     private static void odds() {

@@ -562,7 +562,7 @@ final class Model {
                 best = p;
             }
         }
-        return what == 0 ? best : best == NONE ? 0 : cost(withRight(1 << best));
+        return what == 0 || best == NONE ? best : cost(withRight(1 << best));
     }
 
     private long comes(int at, int t, int o, long share, List<Integer> been) {
