@@ -1,6 +1,6 @@
 import java.nio.charset.StandardCharsets;
 
-/** What the tests share: feeding a text, comparing, and the exit code. */
+/** What the tests share: feeding a text, comparing, the sentence that is held, and the exit code. */
 final class Check {
     static final int NONE = -1, UNKNOWN = -1000000001, OUTSIDE = -1000000002, NOT = -1000000003, FULL = -1000000004;
 
@@ -10,15 +10,37 @@ final class Check {
 
     private static int asked = 0;
     private static int wrong = 0;
+    private static String sentence = "";
+    private static int askedBefore = -1;
 
     private Check() {
+    }
+
+    /** The words of the document that the answers from here on hold; promise 0 is what stands ahead of promise 1. */
+    static void sentence(int promise, String words) {
+        endSentence();
+        sentence = (promise == 0 ? "Terms" : "Promise " + promise) + " '" + words + "': ";
+        askedBefore = asked;
+        if (!Document.says(promise, words)) {
+            blame(sentence + "the document does not say this");
+        }
+    }
+
+    private static void endSentence() {
+        if (asked == askedBefore) {
+            blame(sentence + "nothing was asked for it");
+        }
+    }
+
+    private static void blame(String line) {
+        wrong++;
+        System.out.println(line);
     }
 
     static void due(String call, long got, long want) {
         asked++;
         if (got != want) {
-            wrong++;
-            System.out.println(call + " answered " + got + ", due is " + want);
+            blame(sentence + call + " answered " + got + ", due is " + want);
         }
     }
 
@@ -51,7 +73,28 @@ final class Check {
         return x;
     }
 
+    /** A text without a fault. */
+    static TurnedPosts good(String text, int places) {
+        return read(text, places, NONE);
+    }
+
+    /** A text whose fault has this number and byte. */
+    static void bad(String text, int fault, int at) {
+        read(text, -10 - fault, at);
+    }
+
+    private static TurnedPosts read(String text, int answer, int faultAt) {
+        TurnedPosts x = new TurnedPosts();
+        feed(x, text);
+        due("bytes of '" + text + "'", x.told(3), text.length());
+        due("land() of '" + text + "'", x.land(), answer);
+        due("fault() of '" + text + "'", x.fault(), faultAt);
+        due("text behind '" + text + "'", x.told(3), 0);
+        return x;
+    }
+
     static void end(String name) {
+        endSentence();
         System.out.println(name + ": " + asked + " answers, " + wrong + " not as due");
         if (asked == 0 || wrong != 0) {
             System.exit(1);

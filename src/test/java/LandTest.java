@@ -67,130 +67,114 @@ public final class LandTest {
         Check.due("told(3) at 400", x.told(3), 400);
     }
 
-    private static void good(String text, int places) {
-        TurnedPosts x = new TurnedPosts();
-        Check.feed(x, text);
-        Check.due("land() of '" + text + "'", x.land(), places);
-        Check.due("fault() of '" + text + "'", x.fault(), Check.NONE);
-        Check.due("text behind '" + text + "'", x.told(3), 0);
-    }
-
-    private static void bad(String text, int fault, int at) {
-        TurnedPosts x = new TurnedPosts();
-        Check.feed(x, text);
-        Check.due("land() of '" + text + "'", x.land(), -10 - fault);
-        Check.due("fault() of '" + text + "'", x.fault(), at);
-        Check.due("text behind '" + text + "'", x.told(3), 0);
-    }
-
     private static void goodTexts() {
-        good("", 0);
-        good("    ", 0);
-        good("places 1;", 1);
-        good("places 9;", 9);
-        good("places 009;", 9);
-        good("  places  4  ;  ", 4);
-        good("places2;road0 1 99;goes0 1 99;", 2);
-        good("places 2 ;road 000 01 1 ; goes 1 0 001;", 2);
-        good("places 2;goes 0 1 5;goes 0 1 5;goes 1 0 5;road 1 0 7;", 2);
-        good("places 9" + ";" + " ".repeat(391), 9);
-        good("places 9;road 0 1 1;road 0 2 1;road 0 3 1;road 0 4 1;road 0 5 1;", 9);
+        Check.good("", 0);
+        Check.good("    ", 0);
+        Check.good("places 1;", 1);
+        Check.good("places 9;", 9);
+        Check.good("places 009;", 9);
+        Check.good("  places  4  ;  ", 4);
+        Check.good("places2;road0 1 99;goes0 1 99;", 2);
+        Check.good("places 2 ;road 000 01 1 ; goes 1 0 001;", 2);
+        Check.good("places 2;goes 0 1 5;goes 0 1 5;goes 1 0 5;road 1 0 7;", 2);
+        Check.good("places 9" + ";" + " ".repeat(391), 9);
+        Check.good("places 9;road 0 1 1;road 0 2 1;road 0 3 1;road 0 4 1;road 0 5 1;", 9);
     }
 
     private static void faultsOfSigns() {
-        bad("road 0 1 1;", 1, 0);
-        bad("goes 0 1 1;", 1, 0);
-        bad("  goes 0 1 1;", 1, 2);
-        bad("place 3;", 1, 0);
-        bad("placess 3;", 1, 0);
-        bad("Places 3;", 1, 0);
-        bad("placesz 3;", 1, 0);
-        bad("zlaces 3;", 1, 0);
-        bad("road 3;", 1, 0);
-        bad("3;", 1, 0);
-        bad(";", 1, 0);
-        bad("places", 1, 6);
-        bad("places  ", 1, 8);
-        bad("places;", 1, 6);
-        bad("places x;", 1, 7);
-        bad("places -1;", 1, 7);
-        bad("places 2", 1, 8);
-        bad("places 2  ", 1, 10);
-        bad("places 2 3;", 1, 9);
-        bad("places 2;;", 1, 9);
-        bad("places 2;5;", 1, 9);
-        bad("places 2;2222;", 1, 9);
-        bad("places 2 places 2;", 1, 9);
-        bad("places 2;road", 1, 13);
-        bad("places 2;roa", 1, 9);
-        bad("places 2;roads 0 1 1;", 1, 9);
-        bad("places 2;placesroad 0 1 1;", 1, 9);
-        bad("places 2;road 01 0;", 1, 18);
-        bad("places 2;road 0 1;", 1, 17);
-        bad("places 2;road 0 1 5", 1, 19);
-        bad("places 2;road 0 1 5x;", 1, 19);
-        bad("places 2;road 0 1 5 6;", 1, 20);
-        bad("places 2;road 0 1 goes", 1, 18);
-        bad("places 2;road, 0 1 5;", 1, 13);
-        bad("places 2;goes 0 1 5 road 0 1 5;", 1, 20);
-        bad("places 2;\troad 0 1 5;", 1, 9);
-        bad("places 2;" + (char) 233, 1, 9);
-        bad("places 2;" + (char) 0, 1, 9);
-        bad("pla ces 2;", 1, 0);
-        bad(" ".repeat(399) + "p", 1, 399);
+        Check.bad("road 0 1 1;", 1, 0);
+        Check.bad("goes 0 1 1;", 1, 0);
+        Check.bad("  goes 0 1 1;", 1, 2);
+        Check.bad("place 3;", 1, 0);
+        Check.bad("placess 3;", 1, 0);
+        Check.bad("Places 3;", 1, 0);
+        Check.bad("placesz 3;", 1, 0);
+        Check.bad("zlaces 3;", 1, 0);
+        Check.bad("road 3;", 1, 0);
+        Check.bad("3;", 1, 0);
+        Check.bad(";", 1, 0);
+        Check.bad("places", 1, 6);
+        Check.bad("places  ", 1, 8);
+        Check.bad("places;", 1, 6);
+        Check.bad("places x;", 1, 7);
+        Check.bad("places -1;", 1, 7);
+        Check.bad("places 2", 1, 8);
+        Check.bad("places 2  ", 1, 10);
+        Check.bad("places 2 3;", 1, 9);
+        Check.bad("places 2;;", 1, 9);
+        Check.bad("places 2;5;", 1, 9);
+        Check.bad("places 2;2222;", 1, 9);
+        Check.bad("places 2 places 2;", 1, 9);
+        Check.bad("places 2;road", 1, 13);
+        Check.bad("places 2;roa", 1, 9);
+        Check.bad("places 2;roads 0 1 1;", 1, 9);
+        Check.bad("places 2;placesroad 0 1 1;", 1, 9);
+        Check.bad("places 2;road 01 0;", 1, 18);
+        Check.bad("places 2;road 0 1;", 1, 17);
+        Check.bad("places 2;road 0 1 5", 1, 19);
+        Check.bad("places 2;road 0 1 5x;", 1, 19);
+        Check.bad("places 2;road 0 1 5 6;", 1, 20);
+        Check.bad("places 2;road 0 1 goes", 1, 18);
+        Check.bad("places 2;road, 0 1 5;", 1, 13);
+        Check.bad("places 2;goes 0 1 5 road 0 1 5;", 1, 20);
+        Check.bad("places 2;\troad 0 1 5;", 1, 9);
+        Check.bad("places 2;" + (char) 233, 1, 9);
+        Check.bad("places 2;" + (char) 0, 1, 9);
+        Check.bad("pla ces 2;", 1, 0);
+        Check.bad(" ".repeat(399) + "p", 1, 399);
     }
 
     private static void faultsOfNumbers() {
-        bad("places 0;", 2, 7);
-        bad("places 10;", 2, 7);
-        bad("places 0002;", 2, 7);
-        bad("places 4294967298;", 2, 7);
-        bad("places 10", 2, 7);
-        bad("places 2;road 2 0 1;", 2, 14);
-        bad("places 2;road 0000 0 1;", 2, 14);
-        bad("places 2;road 0 2 1;", 2, 16);
-        bad("places 2;road 0 0000 1;", 2, 16);
-        bad("places 2;road 2 2 1;", 2, 14);
-        bad("places 2;road 0 1 0;", 2, 18);
-        bad("places 2;road 0 1 100;", 2, 18);
-        bad("places 2;road 0 1 0001;", 2, 18);
-        bad("places 2;goes 0 1 0;", 2, 18);
-        bad("places 2;goes 0 1 100;", 2, 18);
-        bad("places 2;goes 2 1 1;", 2, 14);
-        bad("places 2;goes 1 2 1;", 2, 16);
-        bad("places 2;goes 1  9999 1;", 2, 17);
+        Check.bad("places 0;", 2, 7);
+        Check.bad("places 10;", 2, 7);
+        Check.bad("places 0002;", 2, 7);
+        Check.bad("places 4294967298;", 2, 7);
+        Check.bad("places 10", 2, 7);
+        Check.bad("places 2;road 2 0 1;", 2, 14);
+        Check.bad("places 2;road 0000 0 1;", 2, 14);
+        Check.bad("places 2;road 0 2 1;", 2, 16);
+        Check.bad("places 2;road 0 0000 1;", 2, 16);
+        Check.bad("places 2;road 2 2 1;", 2, 14);
+        Check.bad("places 2;road 0 1 0;", 2, 18);
+        Check.bad("places 2;road 0 1 100;", 2, 18);
+        Check.bad("places 2;road 0 1 0001;", 2, 18);
+        Check.bad("places 2;goes 0 1 0;", 2, 18);
+        Check.bad("places 2;goes 0 1 100;", 2, 18);
+        Check.bad("places 2;goes 2 1 1;", 2, 14);
+        Check.bad("places 2;goes 1 2 1;", 2, 16);
+        Check.bad("places 2;goes 1  9999 1;", 2, 17);
     }
 
     private static void faultsOfTooMany() {
         String roads = "places 9;road 0 1 1;road 1 2 1;road 2 3 1;road 3 4 1;road 4 5 1;road 5 6 1;road 6 7 1;"
                 + "road 7 8 1;road 8 0 1;road 0 2 1;road 1 3 1;road 2 4 1;road 3 5 1;road 4 6 1;";
-        good(roads, 9);
-        bad(roads + "road 5 7 1;", 3, roads.length());
-        bad(roads + " road 0 0 1;", 3, roads.length() + 1);
-        bad(roads + "road", 3, roads.length());
-        bad(roads + "roadx", 1, roads.length());
+        Check.good(roads, 9);
+        Check.bad(roads + "road 5 7 1;", 3, roads.length());
+        Check.bad(roads + " road 0 0 1;", 3, roads.length() + 1);
+        Check.bad(roads + "road", 3, roads.length());
+        Check.bad(roads + "roadx", 1, roads.length());
         String travels = "places 9;" + "goes 0 1 1;".repeat(20);
-        good(travels, 9);
-        bad(travels + "goes 0 1 1;", 3, travels.length());
-        bad(travels + "goes 0 x", 3, travels.length());
-        good(roads + "goes 0 1 1;".repeat(20), 9);
-        bad("places 2;places 2;", 3, 9);
-        bad("places 1;places 1;", 3, 9);
-        bad("places 2;  places", 3, 11);
+        Check.good(travels, 9);
+        Check.bad(travels + "goes 0 1 1;", 3, travels.length());
+        Check.bad(travels + "goes 0 x", 3, travels.length());
+        Check.good(roads + "goes 0 1 1;".repeat(20), 9);
+        Check.bad("places 2;places 2;", 3, 9);
+        Check.bad("places 1;places 1;", 3, 9);
+        Check.bad("places 2;  places", 3, 11);
     }
 
     private static void faultsOfPairs() {
-        bad("places 2;road 0 0 1;", 4, 16);
-        bad("places 2;road 0 00 100;", 4, 16);
-        bad("places 2;road 0 0", 4, 16);
-        bad("places 2;goes 1 1 1;", 4, 16);
-        bad("places 1;road 0 0 1;", 4, 16);
-        bad("places 1;goes 0 0 1;", 4, 16);
-        bad("places 2;road 0 1 1;road 0 1 2;", 4, 27);
-        bad("places 2;road 0 1 1;road 1   0 2;", 4, 29);
+        Check.bad("places 2;road 0 0 1;", 4, 16);
+        Check.bad("places 2;road 0 00 100;", 4, 16);
+        Check.bad("places 2;road 0 0", 4, 16);
+        Check.bad("places 2;goes 1 1 1;", 4, 16);
+        Check.bad("places 1;road 0 0 1;", 4, 16);
+        Check.bad("places 1;goes 0 0 1;", 4, 16);
+        Check.bad("places 2;road 0 1 1;road 0 1 2;", 4, 27);
+        Check.bad("places 2;road 0 1 1;road 1   0 2;", 4, 29);
         String star = "places 7;road 0 1 1;road 0 2 1;road 0 3 1;road 0 4 1;road 0 5 1;";
-        bad(star + "road 6 0 1;", 4, star.length() + 7);
-        bad(star + "road 0 6 1;", 4, star.length() + 7);
+        Check.bad(star + "road 6 0 1;", 4, star.length() + 7);
+        Check.bad(star + "road 0 6 1;", 4, star.length() + 7);
     }
 
     private static void faultLeavesAll() {
