@@ -119,6 +119,10 @@ public final class BooksBoundsTest {
         x.tear();
         x.write(0, 2, 3, 6);
         Check.due("round", x.judge(), Check.NONE);
+        TurnedPosts first = Check.landOf("places 3;road 0 1 3;road 0 2 4;");
+        first.turn(0, 1);
+        first.write(0, 1, 3, 8);
+        Check.due("round by the first place's post, as it stands", first.judge(), Check.NONE);
     }
 
     private static void firstThatIsOther() {

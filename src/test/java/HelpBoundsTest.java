@@ -227,6 +227,22 @@ public final class HelpBoundsTest {
         Check.due("turn 0 is the first of them", x.odds(0, 1, 1), 980100000 + 3333333);
         TurnedPosts three = Check.landOf("places 4;road 0 1 1;road 0 2 1;road 0 3 1;road 3 1 1;");
         Check.due("halves", three.odds(0, 1, 50), 500000000 + 125000000);
+        // of ten at the fifth turned post nine stay and one goes on; of one none stays: it goes on to the end
+        TurnedPosts row = Check.landOf(Made.CHAIN);
+        int[] comes = {10000000, 100000, 1000, 10, 1, 1, 1};
+        for (int p = 1; p < 8; p++) {
+            row.turn(p, 1);
+            Check.due("posts turned up to " + p, row.odds(0, 8, 1), throughPostsThatStay(comes[p - 1], 7 - p));
+        }
+    }
+
+    /** What is left of a share behind posts as they should be, by ninety-nine of a hundred each. */
+    private static long throughPostsThatStay(long share, int posts) {
+        long left = share;
+        for (int k = 0; k < posts; k++) {
+            left = left * 99 / 100;
+        }
+        return left;
     }
 
     private static void oddsInRisingOrder() {
@@ -248,6 +264,8 @@ public final class HelpBoundsTest {
         x.fell(1, 1, true);
         Check.due("lost by an arm that fell", x.odds(0, 2, 50), 0);
         Check.due("come before it", x.odds(0, 1, 50), BILLION);
+        x.fell(0, 0, true);
+        Check.due("lost at once, by an arm of the first place", x.odds(0, 1, 50), 0);
         x.right(15);
         x.paint(1, 2, 999);
         Check.due("paint is no matter", x.odds(0, 2, 0), BILLION);

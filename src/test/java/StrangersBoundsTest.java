@@ -150,6 +150,9 @@ public final class StrangersBoundsTest {
         Check.due("at the place where it ends, again", x.way(0, 8, 8), 6);
         Check.due("the place before", x.way(0, 8, 7), 7);
         Check.due("where it begins", x.way(5, 5, 0), 5);
+        TurnedPosts first = Check.landOf("places 3;road 0 1 1;road 0 2 1;");
+        first.turn(0, 1);
+        Check.due("by the first place's post, as it stands", first.way(0, 1, 1), 2);
     }
 
     private static void notSoMany() {

@@ -272,6 +272,13 @@ public final class TextBoundsTest {
         Check.bad("9999", 1, 0);
         Check.bad("place 2;", 1, 0);
         Check.bad("placess 2;", 1, 0);
+        for (String word : new String[] {"places", "road", "goes"}) {
+            // another letter, the same length: at each place of the word
+            for (int k = 0; k < word.length(); k++) {
+                Check.bad("places 2;" + word.substring(0, k) + "x" + word.substring(k + 1) + " 0 1 5;", 1, 9);
+                Check.bad(word.substring(0, k) + "x" + word.substring(k + 1) + " 2;", 1, 0);
+            }
+        }
         Check.bad("places;", 1, 6);
         Check.bad("places places;", 1, 7);
         Check.bad("places two;", 1, 7);
@@ -352,6 +359,12 @@ public final class TextBoundsTest {
         Check.bad("places 2;placesx", 1, 9);
         Check.bad(FOURTEEN + "roadx", 1, FOURTEEN.length());
         Check.bad(TWENTY + "goesx", 1, TWENTY.length());
+        // 1 and 2 at one byte: a number with a fault of its own where none can stand
+        Check.bad("0000", 1, 0);
+        Check.bad("places 2;0000;", 1, 9);
+        Check.bad("places 2 0000;", 1, 9);
+        Check.bad("places 2;road 0 1 5 0000;", 1, 20);
+        Check.bad("places 2;goes 0 1 5 0000", 1, 20);
         // 2 and 4 at one byte: the B itself again, with four figures
         Check.bad("places 2;road 0 0000 1;", 2, 16);
         Check.bad("places 2;goes 1 0001 1;", 2, 16);
