@@ -30,7 +30,7 @@ final class Made {
         return new TurnedPosts();
     }
 
-    /** Turns, fallen arms, paint, a seed, both images, sights, a book, a fault and half a text. */
+    /** No post with sides as it should be, a seed, both images, sights, a book, a fault and half a text. */
     static TurnedPosts rich() {
         TurnedPosts x = withoutText();
         Check.feed(x, FAULTY);
@@ -50,6 +50,8 @@ final class Made {
         x.seed(99);
         x.keep(1);
         x.right(1);
+        x.fell(0, 1, true);
+        x.paint(0, 1, 17);
         x.fell(4, 0, true);
         x.turn(1, 1);
         x.paint(3, 0, 50);

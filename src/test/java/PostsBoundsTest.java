@@ -388,6 +388,7 @@ public final class PostsBoundsTest {
         for (int set : new int[] {32, 33, 63, -1, Integer.MIN_VALUE, Integer.MAX_VALUE}) {
             Made.refused("right(" + set + ")", Check.UNKNOWN, Made::rich, x -> x.right(set));
         }
+        Check.due("what a refused call could have set right", Made.rich().right(31), 4);
         Check.due("right(511) of nine", Check.landOf("places 9;").right(511), 0);
         Check.due("right(512) of nine", Check.landOf("places 9;").right(512), Check.UNKNOWN);
         Check.due("right(1) of one", Check.landOf("places 1;").right(1), 0);
