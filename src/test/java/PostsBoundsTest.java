@@ -53,6 +53,19 @@ public final class PostsBoundsTest {
         Check.due("itself is told by none", (x.arm(0, 0, 0) | x.arm(0, 1, 0)) & 1, 0);
         Check.due("4 is told by none", (x.arm(0, 0, 0) | x.arm(0, 1, 0)) & 16, 0);
         Check.due("like ways back: the least road", x.arm(3, 0, 0), 3);
+        straightOrRound();
+    }
+
+    /** The straight road from 0 to 2 against four miles over 1: it is true by its miles, not by being straight. */
+    private static void straightOrRound() {
+        for (int miles = 3; miles <= 5; miles++) {
+            TurnedPosts first = Check.landOf("places 3;road 0 2 " + miles + ";road 0 1 2;road 1 2 2;");
+            Check.due("the straight road first, of " + miles, first.arm(0, 0, 0), miles <= 4 ? 4 : 0);
+            Check.due("the way round behind it, " + miles, first.arm(0, 1, 0), miles <= 4 ? 2 : 6);
+            TurnedPosts last = Check.landOf("places 3;road 0 1 2;road 1 2 2;road 0 2 " + miles + ";");
+            Check.due("the way round first, " + miles, last.arm(0, 0, 0), miles <= 3 ? 2 : 6);
+            Check.due("the straight road behind it, of " + miles, last.arm(0, 1, 0), miles <= 3 ? 4 : 0);
+        }
     }
 
     private static void partsOfAPost() {
